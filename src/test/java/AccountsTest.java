@@ -177,6 +177,77 @@ public final class AccountsTest {
         due.is("33: nothing soaked", x.potOf(0, 4) + x.potOf(0, 6), 0);
     }
 
+    /** Each change keeps the kiln as it is just ahead of it, and not as it was ahead of another one. */
+    private void promise33ChangeBehindChange() {
+        KilnKeeper x = new KilnKeeper();
+        x.pot(60, 900, 1);
+        x.put(0);
+        x.aim(100);
+        x.gains(1, 2, 3);
+        due.is("33: undo() of gains", x.undo(), 3);
+        due.is("33: the aim stays", x.account(2), 100);
+        x.aim(300);
+        due.is("33: BAD gains", x.gains(0, 0, 51), BAD);
+        due.is("33: the aim stays", x.account(2), 300);
+        String[] orders = {"aim 400", "gain 1 2 3", "cap 5", "lag 3", "fuel 7", "pot 9 300 9", "go 1"};
+        x.aim(200);
+        for (String order : orders) {
+            x.fuel(9);
+            int fuel = x.account(7);
+            due.is("33: " + order, Due.run(x, order), 1);
+            x.undo();
+            due.is("33: the fuel ahead of " + order, x.account(7), fuel);
+            x.cap(10 + fuel);
+            due.is("33: fails", Due.run(x, order + ";go 0"), REFUSED);
+            due.is("33: the cap ahead of that", x.cap(fuel), 10 + fuel);
+        }
+    }
+
+    /** The same by calls: what came ahead of a change that is undone, or refused, stays. */
+    private void promise33CallBehindCall() {
+        KilnKeeper x = new KilnKeeper();
+        x.pot(60, 900, 1);
+        for (int call = 0; call < 9; call++) {
+            x.fuel(9);
+            int fuel = x.account(7);
+            changeBy(x, call, true);
+            due.is("33: undo() of call " + call, x.undo() >= 0 ? 1 : 0, 1);
+            due.is("33: the fuel ahead of call " + call, x.account(7), fuel);
+            x.fuel(9);
+            due.is("33: a wrong call " + call, changeBy(x, call, false) < 0 ? 1 : 0, 1);
+            due.is("33: the fuel behind it", x.account(7), fuel + 9);
+        }
+        x.put(0);
+        x.fuel(9);
+        x.take(0);
+        x.undo();
+        due.is("33: the fuel ahead of take", x.account(7), 9 * 19);
+    }
+
+    private static int changeBy(KilnKeeper x, int call, boolean isRight) {
+        int number = isRight ? 1 : -1;
+        switch (call) {
+            case 0:
+                return x.aim(isRight ? 300 : 19);
+            case 1:
+                return x.gains(number, 0, 0);
+            case 2:
+                return x.cap(number);
+            case 3:
+                return x.lag(number);
+            case 4:
+                return x.fuel(number);
+            case 5:
+                return x.go(number);
+            case 6:
+                return x.pot(number, 100, 1);
+            case 7:
+                return x.put(isRight ? 0 : -1);
+            default:
+                return isRight ? Due.run(x, "go 1") : x.take(-1);
+        }
+    }
+
     private void promise33TheLog() {
         KilnKeeper x = new KilnKeeper();
         x.fuel(900);
@@ -259,6 +330,8 @@ public final class AccountsTest {
         test.promise32FiredShare();
         test.promise33Undo();
         test.promise33EachChange();
+        test.promise33ChangeBehindChange();
+        test.promise33CallBehindCall();
         test.promise33TheLog();
         test.promises34And35Snapshot();
         test.promise35TextAndReasonStay();

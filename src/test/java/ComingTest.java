@@ -149,6 +149,25 @@ public final class ComingTest {
         due.is("19: all are the same", x.logged(0, 0), x.logged(11, 0));
     }
 
+    /** Each of the 12 places is told in full, wherever the row of minutes begins. */
+    private void promise19LoggedInEveryPlace() {
+        int[][] row = {{30, 20, 1180, 20}, {50, 40, 1170, 40}, {79, 60, 1150, 60}, {117, 80, 1121, 80},
+            {164, 100, 1083, 100}, {209, 100, 1036, 100}, {252, 100, 991, 100}, {293, 100, 948, 100},
+            {333, 100, 907, 100}, {371, 100, 867, 100}, {407, 100, 829, 100}, {442, 100, 793, 100},
+            {476, 100, 758, 100}, {508, 100, 724, 100}};
+        KilnKeeper x = heating(1200, 9999);
+        x.go(11);
+        for (int minutes = 12; minutes <= 14; minutes++) {
+            x.go(1);
+            for (int place = 0; place < 12; place++) {
+                for (int what = 0; what < 4; what++) {
+                    due.is("19: behind " + minutes + ", logged(" + place + ", " + what + ")",
+                            x.logged(place, what), row[minutes - 1 - place][what]);
+                }
+            }
+        }
+    }
+
     private void promises20And21Burnt() {
         KilnKeeper x = heating(1200, 150);
         due.is("20: none", x.burnt(), 0);
@@ -188,6 +207,7 @@ public final class ComingTest {
         test.promise17Above();
         test.promise18WouldOvershoot();
         test.promise19Logged();
+        test.promise19LoggedInEveryPlace();
         test.promises20And21Burnt();
         test.promise22MinutesWith();
         test.due.end();

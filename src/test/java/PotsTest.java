@@ -44,6 +44,37 @@ public final class PotsTest {
         due.is("8: they wait", x.account(11), 8);
     }
 
+    /** A pot that comes in the place of one that is gone has nothing of that one. */
+    private void promise8PotInTheSamePlace() {
+        for (int shock = 5; shock <= 60; shock += 55) {
+            KilnKeeper x = new KilnKeeper();
+            x.fuel(400);
+            x.aim(120);
+            x.save();
+            x.pot(shock, 100, 99);
+            x.put(0);
+            x.go(20);
+            due.is("8: how it was", x.potOf(0, 3), shock == 5 ? 3 : 1);
+            x.restore();
+            due.is("8: none behind restore()", x.account(10), 0);
+            isNewPot(x);
+            x.undo();
+            Due.run(x, shock == 5 ? "pot 5 100 99;put 0;go 20" : "pot 60 100 99;put 0;go 20");
+            due.is("8: how it was behind run()", x.potOf(0, 3), shock == 5 ? 3 : 1);
+            x.undo();
+            due.is("8: none behind undo()", x.account(10), 0);
+            isNewPot(x);
+        }
+    }
+
+    private void isNewPot(KilnKeeper x) {
+        due.is("8: another one", x.pot(50, 200, 3), 0);
+        int[] all = {50, 200, 3, 0, 0, 0, 0};
+        for (int what = 0; what < all.length; what++) {
+            due.is("8: its number " + what, x.potOf(0, what), all[what]);
+        }
+    }
+
     private void promise9Put() {
         KilnKeeper x = withPots(6);
         due.is("9: put(-1)", x.put(-1), NONE);
@@ -314,6 +345,15 @@ public final class PotsTest {
         due.is("13: one is cracked now", x.account(14), 1);
         due.is("13: it is left out", x.wouldCrack(1), 2);
         due.is("13: and here", x.wouldCrack(300), 10);
+        KilnKeeper y = new KilnKeeper();
+        for (int pot = 0; pot < 8; pot++) {
+            y.pot(pot % 7 == 0 ? 9 : 60, 1200, 1);
+        }
+        y.put(7);
+        y.put(0);
+        y.fuel(9999);
+        y.aim(1200);
+        due.is("13: the first and the last pot", y.wouldCrack(1), 129);
     }
 
     private void promise14Ranked() {
@@ -356,6 +396,7 @@ public final class PotsTest {
     public static void main(String[] args) {
         PotsTest test = new PotsTest();
         test.promise8Pot();
+        test.promise8PotInTheSamePlace();
         test.promise9Put();
         test.promise9PutIntoAWarmKiln();
         test.promise10Take();

@@ -37,7 +37,7 @@ public final class TextsTest {
         String[] wrong = {"|", "|;", "|x", "| aim 30", "a|", "a|m", "ai|", "aim|", "aim|3", "aim |", "aim |x", "aim | 3", "aim 30|x", "aim 30| ", "aim 0030|0", "aim 30;|",
             "aim 30;|;", "aim 30;| go 1", "aim 30;g|", "|Aim 30",
             "g|", "g|x", "ga|", "ga|o", "go|", "go|a", "gai|", "gain|", "gain |", "gain 1|", "gain 1 |",
-            "gain 1 2|", "gain 1 2 |", "gain 1 2 | ", "gain 10|0 2 3", "gain 1|;",
+            "gain 1 2|", "gain 1 2 |", "gain 1 2 | ", "gain 10|0 2 3", "gain 1 10|0 3", "gain 1|;",
             "gain 1 2|;", "gain 1 2 3| ", "gain 1 2 34|5", "gain 1 | 2 3", "gain |-1 2 3",
             "c|", "ca|", "ca|n 1", "cap|", "cap |", "cap 1234|5", "cap 12|a",
             "l|", "la|", "lag|", "lag |", "lag 1|0", "lag 1| ", "lag |;",
@@ -47,7 +47,8 @@ public final class TextsTest {
             "t|", "ta|", "tak|", "take|", "take |", "take 1|2", "ta|g 1",
             "f|", "fu|", "fue|", "fuel|", "fuel |", "fuel 1234|5", "fuel 1|.", "fu|l 1",
             "go |", "go 300|0", "go 1|x", "go 1;go 1;go 1|,", "go 1;go 1;|", "go 1;pot 1 100|",
-            "go|1", "go |/", "go |:", "go 1|/", "go 1|:"};
+            "go|1", "go |/", "go |:", "go 1|/", "go 1|:",
+            "go 1;go 1;go 1;go 1;go 1;go 1;go 1;go 1;go 1;go 1;go 1;go 1;|"};
         for (String marked : wrong) {
             int fault = marked.indexOf('|');
             isAnswer(marked.substring(0, fault) + marked.substring(fault + 1), -20000 - fault);
